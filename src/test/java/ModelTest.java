@@ -1,0 +1,324 @@
+import java.util.Random;
+
+/** Runs of drawn calls, each answered by the class and by the plain model, with seeds that never change. */
+public final class ModelTest {
+    private static final String[] ACTS = {"head", "tail", "plus", "less", "not"};
+    private static final String[] LAWS = {"never", "most", "order", "pair", "hidden", "seen"};
+    private static final int[] ODD = {-3, -2, -1, 0, 1, 2, 3, 4, 5, 6, 9, 10, 11, 12, 19, 20, 49, 50, Integer.MAX_VALUE, Integer.MIN_VALUE};
+
+    private final Due due = new Due();
+    private final Random random;
+    private final int run;
+    private SilentTable x = new SilentTable();
+    private SlowTable y = new SlowTable();
+
+    private ModelTest(int run) {
+        this.run = run;
+        random = new Random(run);
+    }
+
+    public static void main(String[] args) {
+        int runs = args.length > 0 ? Integer.parseInt(args[0]) : 400;
+        int first = args.length > 1 ? Integer.parseInt(args[1]) : 0;
+        int wrong = 0;
+        int asked = 0;
+        for (int run = first; run < first + runs; run++) {
+            ModelTest test = new ModelTest(run);
+            for (int k = 0; k < 160 && test.due.wrongSoFar() == 0; k++) {
+                test.call();
+                asked++;
+            }
+            wrong += test.due.wrongSoFar();
+        }
+        System.out.println("ModelTest: " + asked + " drawn calls, " + wrong + " wrong");
+        if (wrong != 0) {
+            System.exit(1);
+        }
+    }
+
+    private int below(int n) {
+        return random.nextInt(n);
+    }
+
+    /** A number mostly below n, now and then an odd one. */
+    private int near(int n) {
+        return below(12) == 0 ? ODD[below(ODD.length)] : below(n);
+    }
+
+    private int orNone(int n) {
+        return below(3) == 0 ? -1 : near(n);
+    }
+
+    private void is(String call, long got, long want) {
+        due.is("run " + run + ": " + call, got, want);
+    }
+
+    private void call() {
+        try {
+            switch (below(8)) {
+                case 0 -> tell();
+                case 1 -> askTold();
+                case 2 -> askTrees();
+                case 3 -> askMeanings();
+                case 4 -> askMeal();
+                case 5 -> askHouse();
+                case 6 -> askTape();
+                default -> askTogether();
+            }
+        } catch (SlowTable.TooMuch e) {
+            // The model can't tell: nothing is compared.
+        }
+    }
+
+    private String number(int n) {
+        int v = below(60) == 0 ? below(100) : below(n);
+        return below(12) == 0 && v < 10 ? "0" + v : "" + v;
+    }
+
+    private String blank() {
+        String[] blanks = {" ", " ", " ", "  ", "\n", " \n "};
+        return blanks[below(blanks.length)];
+    }
+
+    private String line(String word, int... limits) {
+        StringBuilder line = new StringBuilder(word);
+        for (int i = 0; i < limits.length; i++) {
+            line.append(i == 0 && below(20) == 0 ? "" : blank()).append(number(limits[i]));
+        }
+        return line.toString();
+    }
+
+    private String listText() {
+        int kinds = 1 + below(3);
+        int signs = 1 + below(4);
+        int values = below(3) == 0 ? 50 : 6;
+        StringBuilder text = new StringBuilder();
+        for (int n = below(below(20) == 0 ? 13 : 6); n > 0; n--) {
+            text.append(line("rule", kinds, kinds, kinds)).append(blank()).append(ACTS[below(5)]).append(";");
+        }
+        for (int n = below(below(20) == 0 ? 19 : 8); n > 0; n--) {
+            text.append(line("sign", signs, kinds, values)).append(below(3) == 0 ? " ;\n" : ";");
+        }
+        for (int n = below(4); n > 0; n--) {
+            text.append(line("near", signs + 1, signs + 2)).append(";");
+        }
+        return text.toString();
+    }
+
+    private String rowText() {
+        StringBuilder text = new StringBuilder();
+        int signs = 1 + below(4);
+        for (int n = below(10) == 0 ? below(14) : 1 + below(6); n > 0; n--) {
+            text.append(number(signs)).append(n == 1 && below(2) == 0 ? "" : blank());
+        }
+        return text.toString();
+    }
+
+    private String mealText() {
+        StringBuilder text = new StringBuilder();
+        int seats = 1 + below(6);
+        int signs = 1 + below(4);
+        if (below(3) > 0 || seats > 4) {
+            text.append(line("seats", 7)).append(";").append("seats ").append(seats).append(";");
+        }
+        for (int n = below(below(10) == 0 ? 54 : 20); n > 0; n--) {
+            switch (below(5)) {
+                case 0, 1 -> {
+                    int one = below(seats);
+                    int two = below(seats);
+                    text.append("look ").append(one).append(" ").append(two == one && below(10) > 0 ? (one + 1) % 6 : two).append(";");
+                }
+                case 2 -> text.append(line("away", seats)).append(";");
+                default -> text.append(line("says", seats, signs)).append(";");
+            }
+        }
+        return text.toString();
+    }
+
+    private String houseText() {
+        StringBuilder text = new StringBuilder();
+        for (int n = below(below(10) == 0 ? 11 : 6); n > 0; n--) {
+            int law = below(6);
+            text.append(law == 0 || law > 3 ? line(LAWS[law], 4) : law == 1 ? line(LAWS[law], 4, 3) : line(LAWS[law], 4, 4));
+            text.append(";");
+        }
+        return text.toString();
+    }
+
+    /** Breaks a text now and then by a byte put in, left out or changed. */
+    private String spoilt(String text) {
+        if (below(6) > 0) {
+            return text;
+        }
+        StringBuilder bytes = new StringBuilder(text);
+        String odd = "0129;;a zR\n\t-" + (char) 0 + (char) 200 + (char) 255;
+        int at = below(bytes.length() + 1);
+        switch (below(4)) {
+            case 0 -> bytes.insert(at, odd.charAt(below(odd.length())));
+            case 1 -> bytes.setLength(at);
+            default -> {
+                if (at < bytes.length()) {
+                    bytes.setCharAt(at, odd.charAt(below(odd.length())));
+                }
+            }
+        }
+        return bytes.toString();
+    }
+
+    private void feed(int a, int b, int c, int d, int e) {
+        is("feed", x.feed(a, b, c, d, e), y.feed(a, b, c, d, e));
+    }
+
+    private void put(String text) {
+        is("end(0)", x.end(0), y.end(0));
+        String padded = text + "                    ";
+        for (int i = 0; i < text.length(); i += 20) {
+            int[] w = new int[5];
+            for (int k = 0; k < 20; k++) {
+                w[k / 4] = w[k / 4] << 8 | padded.charAt(i + k) & 255;
+            }
+            feed(w[0], w[1], w[2], w[3], w[4]);
+        }
+        is("end", x.end(text.length()), y.end(text.length()));
+    }
+
+    private void tell() {
+        for (int n = 1 + below(4); n > 0; n--) {
+            int sort = below(30) == 0 ? ODD[below(ODD.length)] : below(4);
+            String text = switch (below(40) == 0 ? below(4) : sort) {
+                case 0 -> listText();
+                case 1 -> rowText();
+                case 2 -> mealText();
+                default -> houseText();
+            };
+            text = spoilt(text);
+            put(text);
+            int at = below(2) == 0 ? -1 : near(3);
+            String call = "text(" + sort + ", " + at + ") of " + text.replace("\n", "\\n");
+            is(call, x.text(sort, at), y.text(sort, at));
+            is(call + " fault(0)", x.fault(0), y.fault(0));
+            is(call + " fault(1)", x.fault(1), y.fault(1));
+        }
+    }
+
+    private void askTape() {
+        int k = near(4);
+        switch (below(8)) {
+            case 0 -> {
+                for (int n = below(3) == 0 ? 34 : 2; n > 0; n--) {
+                    feed(random.nextInt(), 0x20303132, random.nextInt(), 0x3b3b3b3b, random.nextInt());
+                }
+            }
+            case 1 -> is("end", x.end(k * 30), y.end(k * 30));
+            case 2 -> is("fault", x.fault(k), y.fault(k));
+            case 3 -> is("count", x.count(k), y.count(k));
+            case 4, 5 -> is("image", x.image(k) ? 1 : 0, y.image(k) ? 1 : 0);
+            default -> is("again", x.again(k) ? 1 : 0, y.again(k) ? 1 : 0);
+        }
+    }
+
+    private void askTold() {
+        int l = near(2);
+        int k = orNone(12);
+        int what = near(4);
+        int sign = 10 + near(10);
+        is("list(" + l + "," + what + ")", x.list(l, what), y.list(l, what));
+        is("list(" + l + "," + sign + ")", x.list(l, sign), y.list(l, sign));
+        is("rule(" + l + "," + k + "," + what + ")", x.rule(l, k, what), y.rule(l, k, what));
+        is("reading(" + l + "," + k + "," + what + ")", x.reading(l, k, what), y.reading(l, k, what));
+        is("row(" + l + "," + k + ")", x.row(l, k), y.row(l, k));
+        is("law(" + l + "," + k + "," + what + ")", x.law(l, k, what), y.law(l, k, what));
+    }
+
+    private void askTrees() {
+        int l = near(2);
+        int r = near(3);
+        int from = near(6);
+        int to = near(7);
+        int kind = near(3);
+        int v = below(2) == 0 ? near(50) : near(8);
+        is("trees(" + l + "," + r + "," + kind + "," + from + "," + to + ")", x.trees(l, r, kind, from, to), y.trees(l, r, kind, from, to));
+        is("can(" + l + "," + r + "," + from + "," + to + ")", x.can(l, r, from, to), y.can(l, r, from, to));
+        is("ways(" + l + "," + r + "," + v + ")", x.ways(l, r, v), y.ways(l, r, v));
+        int place = near(6);
+        long n = below(8) == 0 ? ODD[below(ODD.length)] : below(below(2) == 0 ? 3 : 200);
+        for (int what : new int[] {0, 1, 2, 3, 9, 10, 11, 12, 13, 14, near(30)}) {
+            is("tree(" + l + "," + r + "," + n + "," + what + ")", x.tree(l, r, n, what), y.tree(l, r, n, what));
+        }
+        is("doubt(" + l + "," + r + "," + place + ")", x.doubt(l, r, place), y.doubt(l, r, place));
+    }
+
+    private void askMeanings() {
+        int l = near(2);
+        int r = near(3);
+        int o = near(3);
+        int k = orNone(4);
+        int h = near(10);
+        int place = near(6);
+        int seed = random.nextInt();
+        is("means(" + l + "," + r + "," + k + ")", x.means(l, r, k), y.means(l, r, k));
+        is("like(" + l + "," + r + "," + o + ")", x.like(l, r, o), y.like(l, r, o));
+        is("hole(" + l + "," + r + "," + place + ")", x.hole(l, r, place), y.hole(l, r, place));
+        is("idle(" + l + "," + r + ")", x.idle(l, r), y.idle(l, r));
+        is("drawn(" + l + "," + r + "," + h + "," + seed + "," + place + ")", x.drawn(l, r, h, seed, place), y.drawn(l, r, h, seed, place));
+        is("worn(" + l + "," + r + "," + h + ")", x.worn(l, r, h), y.worn(l, r, h));
+        is("could(" + l + "," + r + "," + h + "," + k + ")", x.could(l, r, h, k), y.could(l, r, h, k));
+        is("lasts(" + l + "," + r + ")", x.lasts(l, r), y.lasts(l, r));
+        is("becomes(" + l + "," + r + "," + o + ")", x.becomes(l, r, o), y.becomes(l, r, o));
+    }
+
+    private void askMeal() {
+        int m = near(2);
+        int k = orNone(20);
+        int what = near(4);
+        int seat = near(6);
+        int by = orNone(6);
+        boolean signs = random.nextBoolean();
+        is("meal(" + m + "," + what + ")", x.meal(m, what), y.meal(m, what));
+        is("deed(" + m + "," + k + "," + what + ")", x.deed(m, k, what), y.deed(m, k, what));
+        is("looks(" + m + "," + k + "," + seat + ")", x.looks(m, k, seat), y.looks(m, k, seat));
+        is("caught(" + m + "," + by + "," + seat + "," + k + ")", x.caught(m, by, seat, k), y.caught(m, by, seat, k));
+        is("passed(" + m + "," + by + "," + seat + ")", x.passed(m, by, seat), y.passed(m, by, seat));
+        is("watch(" + m + "," + seat + "," + signs + ")", x.watch(m, seat, signs), y.watch(m, seat, signs));
+        is("hears(" + m + "," + what + ")", x.hears(m, what), y.hears(m, what));
+        int eyes = 10 + near(6);
+        is("hears(" + m + "," + eyes + ")", x.hears(m, eyes), y.hears(m, eyes));
+    }
+
+    private void askHouse() {
+        int h = near(2);
+        int m = near(2);
+        int what = near(3);
+        int seat = orNone(6);
+        is("breaks(" + h + "," + m + "," + what + ")", x.breaks(h, m, what), y.breaks(h, m, what));
+        is("sins(" + h + "," + m + "," + seat + ")", x.sins(h, m, seat), y.sins(h, m, seat));
+        is("mildest(" + h + "," + m + ")", x.mildest(h, m), y.mildest(h, m));
+    }
+
+    private void askTogether() {
+        int l = near(2);
+        int r = near(3);
+        int m = near(2);
+        int from = near(5);
+        int to = near(5);
+        int k = orNone(4);
+        int by = orNone(6);
+        int v = near(8);
+        int what = near(5);
+        int h = orNone(10);
+        is("knows(" + l + "," + m + "," + by + "," + from + "," + k + ")", x.knows(l, m, by, from, k), y.knows(l, m, by, from, k));
+        is("sure(" + l + "," + m + "," + from + ")", x.sure(l, m, from), y.sure(l, m, from));
+        is("reaches(" + l + "," + r + "," + m + "," + from + "," + to + ")",
+            x.reaches(l, r, m, from, to) ? 1 : 0, y.reaches(l, r, m, from, to) ? 1 : 0);
+        int other = near(2);
+        is("apart(" + l + "," + other + "," + what + ")", x.apart(l, other, what), y.apart(l, other, what));
+        if (below(4) == 0) {
+            is("brief(" + l + "," + v + "," + h + "," + what + ")", x.brief(l, v, h, what), y.brief(l, v, h, what));
+            is("asks(" + l + "," + v + "," + m + "," + from + "," + to + "," + what + ")",
+                x.asks(l, v, m, from, to, what), y.asks(l, v, m, from, to, what));
+            int n = near(below(3) == 0 ? 6 : 4);
+            int w = near(3);
+            is("all(" + l + "," + n + "," + w + ")", x.all(l, n, w), y.all(l, n, w));
+        }
+    }
+}
