@@ -312,7 +312,7 @@ public final class SilentTable {
         if (n >= there && there != ENDLESS) {
             return MISSING;
         }
-        int value = counted.pick(0, 0, parts.size - 1, n);
+        int value = counted.pickWhole(n);
         switch (what) {
             case 0:
                 return value;
@@ -898,11 +898,23 @@ public final class SilentTable {
             size = other.size;
             fault = other.fault;
             place = other.place;
-            System.arraycopy(other.lists, 0, lists, 0, lists.length);
-            System.arraycopy(other.rows, 0, rows, 0, rows.length);
-            System.arraycopy(other.meals, 0, meals, 0, meals.length);
-            System.arraycopy(other.houses, 0, houses, 0, houses.length);
             System.arraycopy(other.counts, 0, counts, 0, SORTS);
+            takeTexts(other);
+        }
+
+        private void takeTexts(Told other) {
+            for (int i = 0; i < lists.length; i++) {
+                lists[i] = other.lists[i];
+            }
+            for (int i = 0; i < rows.length; i++) {
+                rows[i] = other.rows[i];
+            }
+            for (int i = 0; i < meals.length; i++) {
+                meals[i] = other.meals[i];
+            }
+            for (int i = 0; i < houses.length; i++) {
+                houses[i] = other.houses[i];
+            }
         }
     }
 
@@ -1567,9 +1579,16 @@ public final class SilentTable {
             return cells[part(cut + 1, to) * KINDS + list.rules[r * EACH + 2]];
         }
 
-        /** Goes down the n-th TREE of a KIND over a part (each call over a shorter one): its VALUE. */
-        int pick(int kind, int from, int to, long n) {
-            if (from >= to) {
+        /** Goes down the n-th TREE of KIND 0 over the whole: its VALUE. */
+        int pickWhole(long n) {
+            topRule = NONE;
+            topCut = NONE;
+            return pick(0, 0, row.size - 1, n, 1);
+        }
+
+        /** A TREE over twelve SIGNS is at most twelve deep. */
+        private int pick(int kind, int from, int to, long n, int depth) {
+            if (from >= to || depth > ROW_MOST) {
                 return pickReading(kind, from, n);
             }
             long left = n;
@@ -1579,8 +1598,8 @@ public final class SilentTable {
                     long here = list.rules[r * EACH] == kind ? times(firsts(r, from, cut), seconds) : 0;
                     if (seconds > 0 && (left < here || here == ENDLESS)) {
                         boolean endless = seconds == ENDLESS;
-                        int u = pick(list.rules[r * EACH + 1], from, cut, endless ? 0 : left / seconds);
-                        int v = pick(list.rules[r * EACH + 2], cut + 1, to, endless ? left : left % seconds);
+                        int u = pick(list.rules[r * EACH + 1], from, cut, endless ? 0 : left / seconds, depth + 1);
+                        int v = pick(list.rules[r * EACH + 2], cut + 1, to, endless ? left : left % seconds, depth + 1);
                         // The whole comes last, behind all its parts.
                         topRule = r;
                         topCut = cut + 1 - from;
@@ -1593,8 +1612,6 @@ public final class SilentTable {
         }
 
         private int pickReading(int kind, int place, long n) {
-            topRule = NONE;
-            topCut = NONE;
             long left = n;
             for (int k = 0; k < list.readingCount; k++) {
                 if (list.readings[k * EACH] == row.signs[place] && list.readings[k * EACH + 1] == kind) {

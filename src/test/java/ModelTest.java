@@ -15,6 +15,10 @@ public final class ModelTest {
     private ModelTest(int run) {
         this.run = run;
         random = new Random(run);
+        // Most runs begin with a full table, so that most calls have something to answer.
+        for (int n = 0; n < 18 && run % 8 != 0; n++) {
+            tellOne(n % 9 < 2 ? 0 : n % 9 < 5 ? 1 : n % 9 < 7 ? 2 : 3, -1);
+        }
     }
 
     public static void main(String[] args) {
@@ -42,7 +46,15 @@ public final class ModelTest {
 
     /** A number mostly below n, now and then an odd one. */
     private int near(int n) {
-        return below(12) == 0 ? ODD[below(ODD.length)] : below(n);
+        return below(30) == 0 ? ODD[below(ODD.length)] : below(Math.max(n, 1));
+    }
+
+    private int inRow(int row) {
+        return near(Math.max(1, y.row(row, -1)));
+    }
+
+    private int seatIn(int meal) {
+        return near(Math.max(1, y.meal(meal, 0)));
     }
 
     private int orNone(int n) {
@@ -71,7 +83,7 @@ public final class ModelTest {
     }
 
     private String number(int n) {
-        int v = below(60) == 0 ? below(100) : below(n);
+        int v = below(150) == 0 ? below(100) : below(n);
         return below(12) == 0 && v < 10 ? "0" + v : "" + v;
     }
 
@@ -88,19 +100,42 @@ public final class ModelTest {
         return line.toString();
     }
 
+    /** Signs that go on meaning the same, hand by hand, until one does not. */
+    private String chainText() {
+        StringBuilder text = new StringBuilder("rule 0 0 1 " + ACTS[below(5)] + ";");
+        int kept = below(9);
+        for (int s = 0; s < 10; s++) {
+            text.append("sign ").append(s).append(below(3) == 0 ? " 1 " : " 0 ").append(s <= kept ? 1 : 2 + below(2)).append(";");
+            if (s < 9 && below(9) > 0) {
+                text.append("near ").append(s).append(" ").append(s + 1).append(";");
+            }
+        }
+        return text.toString();
+    }
+
     private String listText() {
+        if (below(4) == 0) {
+            return chainText();
+        }
         int kinds = 1 + below(3);
-        int signs = 1 + below(4);
+        int signs = 1 + below(5);
         int values = below(3) == 0 ? 50 : 6;
         StringBuilder text = new StringBuilder();
-        for (int n = below(below(20) == 0 ? 13 : 6); n > 0; n--) {
+        for (int n = below(below(20) == 0 ? 13 : 7); n > 0; n--) {
             text.append(line("rule", kinds, kinds, kinds)).append(blank()).append(ACTS[below(5)]).append(";");
         }
-        for (int n = below(below(20) == 0 ? 19 : 8); n > 0; n--) {
+        for (int n = 1 + below(below(20) == 0 ? 19 : 9); n > 0; n--) {
             text.append(line("sign", signs, kinds, values)).append(below(3) == 0 ? " ;\n" : ";");
         }
+        if (below(3) == 0) {
+            // A chain, by which it takes many hands to wear a sign far away.
+            for (int s = below(4); s < 9; s++) {
+                text.append("near ").append(s).append(" ").append(s + 1).append(";");
+            }
+        }
         for (int n = below(4); n > 0; n--) {
-            text.append(line("near", signs + 1, signs + 2)).append(";");
+            int one = below(signs + 1);
+            text.append("near ").append(one).append(" ").append((one + 1 + below(below(15) == 0 ? 10 : 9)) % 10).append(";");
         }
         return text.toString();
     }
@@ -108,8 +143,8 @@ public final class ModelTest {
     private String rowText() {
         StringBuilder text = new StringBuilder();
         int signs = 1 + below(4);
-        for (int n = below(10) == 0 ? below(14) : 1 + below(6); n > 0; n--) {
-            text.append(number(signs)).append(n == 1 && below(2) == 0 ? "" : blank());
+        for (int n = below(10) == 0 ? below(14) : 1 + below(5); n > 0; n--) {
+            text.append(number(below(8) == 0 ? 10 : signs)).append(n == 1 && below(2) == 0 ? "" : blank());
         }
         return text.toString();
     }
@@ -119,17 +154,29 @@ public final class ModelTest {
         int seats = 1 + below(6);
         int signs = 1 + below(4);
         if (below(3) > 0 || seats > 4) {
-            text.append(line("seats", 7)).append(";").append("seats ").append(seats).append(";");
+            text.append("seats 5;seats ").append(seats).append(";");
         }
-        for (int n = below(below(10) == 0 ? 54 : 20); n > 0; n--) {
+        if (below(3) == 0) {
+            // A chain, by which a request goes through many hands.
+            for (int s = 0; s + 1 < seats; s++) {
+                text.append("look ").append(s + 1).append(" ").append(s).append(";");
+            }
+        }
+        int speaker = below(2) == 0 ? below(seats) : -1;
+        for (int n = below(below(10) == 0 ? 60 : 20); n > 0; n--) {
             switch (below(5)) {
                 case 0, 1 -> {
                     int one = below(seats);
                     int two = below(seats);
-                    text.append("look ").append(one).append(" ").append(two == one && below(10) > 0 ? (one + 1) % 6 : two).append(";");
+                    if (two != one || below(30) == 0) {
+                        text.append("look ").append(one).append(" ").append(two).append(";");
+                    }
                 }
                 case 2 -> text.append(line("away", seats)).append(";");
-                default -> text.append(line("says", seats, signs)).append(";");
+                default -> {
+                    int who = speaker >= 0 && below(2) == 0 ? speaker : below(seats);
+                    text.append("says ").append(who).append(" ").append(number(signs)).append(";");
+                }
             }
         }
         return text.toString();
@@ -147,7 +194,7 @@ public final class ModelTest {
 
     /** Breaks a text now and then by a byte put in, left out or changed. */
     private String spoilt(String text) {
-        if (below(6) > 0) {
+        if (below(8) > 0) {
             return text;
         }
         StringBuilder bytes = new StringBuilder(text);
@@ -183,22 +230,24 @@ public final class ModelTest {
     }
 
     private void tell() {
-        for (int n = 1 + below(4); n > 0; n--) {
-            int sort = below(30) == 0 ? ODD[below(ODD.length)] : below(4);
-            String text = switch (below(40) == 0 ? below(4) : sort) {
-                case 0 -> listText();
-                case 1 -> rowText();
-                case 2 -> mealText();
-                default -> houseText();
-            };
-            text = spoilt(text);
-            put(text);
-            int at = below(2) == 0 ? -1 : near(3);
-            String call = "text(" + sort + ", " + at + ") of " + text.replace("\n", "\\n");
-            is(call, x.text(sort, at), y.text(sort, at));
-            is(call + " fault(0)", x.fault(0), y.fault(0));
-            is(call + " fault(1)", x.fault(1), y.fault(1));
+        for (int n = 1 + below(3); n > 0; n--) {
+            tellOne(below(30) == 0 ? ODD[below(ODD.length)] : below(4), below(4) == 0 ? -1 : near(3));
         }
+    }
+
+    private void tellOne(int sort, int at) {
+        String text = switch (below(60) == 0 ? below(4) : sort) {
+            case 0 -> listText();
+            case 1 -> rowText();
+            case 2 -> mealText();
+            default -> houseText();
+        };
+        text = spoilt(text);
+        put(text);
+        String call = "text(" + sort + ", " + at + ") of " + text.replace("\n", "\\n");
+        is(call, x.text(sort, at), y.text(sort, at));
+        is(call + " fault(0)", x.fault(0), y.fault(0));
+        is(call + " fault(1)", x.fault(1), y.fault(1));
     }
 
     private void askTape() {
@@ -233,14 +282,14 @@ public final class ModelTest {
     private void askTrees() {
         int l = near(2);
         int r = near(3);
-        int from = near(6);
-        int to = near(7);
+        int from = inRow(r) / 2;
+        int to = inRow(r);
         int kind = near(3);
         int v = below(2) == 0 ? near(50) : near(8);
         is("trees(" + l + "," + r + "," + kind + "," + from + "," + to + ")", x.trees(l, r, kind, from, to), y.trees(l, r, kind, from, to));
         is("can(" + l + "," + r + "," + from + "," + to + ")", x.can(l, r, from, to), y.can(l, r, from, to));
         is("ways(" + l + "," + r + "," + v + ")", x.ways(l, r, v), y.ways(l, r, v));
-        int place = near(6);
+        int place = inRow(r);
         long n = below(8) == 0 ? ODD[below(ODD.length)] : below(below(2) == 0 ? 3 : 200);
         for (int what : new int[] {0, 1, 2, 3, 9, 10, 11, 12, 13, 14, near(30)}) {
             is("tree(" + l + "," + r + "," + n + "," + what + ")", x.tree(l, r, n, what), y.tree(l, r, n, what));
@@ -254,7 +303,7 @@ public final class ModelTest {
         int o = near(3);
         int k = orNone(4);
         int h = near(10);
-        int place = near(6);
+        int place = inRow(r);
         int seed = random.nextInt();
         is("means(" + l + "," + r + "," + k + ")", x.means(l, r, k), y.means(l, r, k));
         is("like(" + l + "," + r + "," + o + ")", x.like(l, r, o), y.like(l, r, o));
@@ -269,19 +318,20 @@ public final class ModelTest {
 
     private void askMeal() {
         int m = near(2);
-        int k = orNone(20);
+        int k = orNone(Math.max(1, y.meal(m, 1)));
         int what = near(4);
-        int seat = near(6);
-        int by = orNone(6);
+        int seat = seatIn(m);
+        int by = below(5) == 0 ? -1 : seatIn(m);
         boolean signs = random.nextBoolean();
         is("meal(" + m + "," + what + ")", x.meal(m, what), y.meal(m, what));
         is("deed(" + m + "," + k + "," + what + ")", x.deed(m, k, what), y.deed(m, k, what));
         is("looks(" + m + "," + k + "," + seat + ")", x.looks(m, k, seat), y.looks(m, k, seat));
-        is("caught(" + m + "," + by + "," + seat + "," + k + ")", x.caught(m, by, seat, k), y.caught(m, by, seat, k));
+        int c = orNone(5);
+        is("caught(" + m + "," + by + "," + seat + "," + c + ")", x.caught(m, by, seat, c), y.caught(m, by, seat, c));
         is("passed(" + m + "," + by + "," + seat + ")", x.passed(m, by, seat), y.passed(m, by, seat));
         is("watch(" + m + "," + seat + "," + signs + ")", x.watch(m, seat, signs), y.watch(m, seat, signs));
         is("hears(" + m + "," + what + ")", x.hears(m, what), y.hears(m, what));
-        int eyes = 10 + near(6);
+        int eyes = 10 + seatIn(m);
         is("hears(" + m + "," + eyes + ")", x.hears(m, eyes), y.hears(m, eyes));
     }
 
@@ -289,7 +339,7 @@ public final class ModelTest {
         int h = near(2);
         int m = near(2);
         int what = near(3);
-        int seat = orNone(6);
+        int seat = below(4) == 0 ? -1 : seatIn(m);
         is("breaks(" + h + "," + m + "," + what + ")", x.breaks(h, m, what), y.breaks(h, m, what));
         is("sins(" + h + "," + m + "," + seat + ")", x.sins(h, m, seat), y.sins(h, m, seat));
         is("mildest(" + h + "," + m + ")", x.mildest(h, m), y.mildest(h, m));
@@ -299,12 +349,12 @@ public final class ModelTest {
         int l = near(2);
         int r = near(3);
         int m = near(2);
-        int from = near(5);
-        int to = near(5);
+        int from = seatIn(m);
+        int to = seatIn(m);
         int k = orNone(4);
-        int by = orNone(6);
-        int v = near(8);
-        int what = near(5);
+        int by = below(4) == 0 ? -1 : seatIn(m);
+        int v = near(below(4) == 0 ? 50 : 12);
+        int what = near(3);
         int h = orNone(10);
         is("knows(" + l + "," + m + "," + by + "," + from + "," + k + ")", x.knows(l, m, by, from, k), y.knows(l, m, by, from, k));
         is("sure(" + l + "," + m + "," + from + ")", x.sure(l, m, from), y.sure(l, m, from));
@@ -313,9 +363,10 @@ public final class ModelTest {
         int other = near(2);
         is("apart(" + l + "," + other + "," + what + ")", x.apart(l, other, what), y.apart(l, other, what));
         if (below(4) == 0) {
-            is("brief(" + l + "," + v + "," + h + "," + what + ")", x.brief(l, v, h, what), y.brief(l, v, h, what));
-            is("asks(" + l + "," + v + "," + m + "," + from + "," + to + "," + what + ")",
-                x.asks(l, v, m, from, to, what), y.asks(l, v, m, from, to, what));
+            int told = below(3) > 0 ? y.reading(l, below(Math.max(1, y.list(l, 1))), 2) : v;
+            is("brief(" + l + "," + told + "," + h + "," + what + ")", x.brief(l, told, h, what), y.brief(l, told, h, what));
+            is("asks(" + l + "," + told + "," + m + "," + from + "," + to + "," + what + ")",
+                x.asks(l, told, m, from, to, what), y.asks(l, told, m, from, to, what));
             int n = near(below(3) == 0 ? 6 : 4);
             int w = near(3);
             is("all(" + l + "," + n + "," + w + ")", x.all(l, n, w), y.all(l, n, w));
