@@ -125,6 +125,9 @@ public final class SilentTable {
     }
 
     public int text(int sort, int at) {
+        int length = told.size;
+        // The tape is taken by every call, also by one that reads no text of it.
+        told.size = 0;
         told.fault = 0;
         told.place = NONE;
         if (sort < 0 || sort >= SORTS) {
@@ -136,8 +139,7 @@ public final class SilentTable {
             return MISSING;
         }
         int number = further ? there : at;
-        reader.readTape(told.size, sort);
-        told.size = 0;
+        reader.readTape(length, sort);
         told.fault = reader.fault;
         told.place = reader.place;
         if (told.fault != 0) {

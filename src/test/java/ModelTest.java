@@ -246,6 +246,7 @@ public final class ModelTest {
         put(text);
         String call = "text(" + sort + ", " + at + ") of " + text.replace("\n", "\\n");
         is(call, x.text(sort, at), y.text(sort, at));
+        is("the tape behind it", x.feed(0, 0, 0, 0, 0), y.feed(0, 0, 0, 0, 0));
         is(call + " fault(0)", x.fault(0), y.fault(0));
         is(call + " fault(1)", x.fault(1), y.fault(1));
     }

@@ -131,11 +131,12 @@ public final class PromiseTest {
                 is("text further", Due.tell(x, sort, texts[sort]), n);
                 is("tape is empty", x.end(1), NONE);
             }
-            is("text too many", Due.tell(x, sort, texts[sort]), -2);
-            is("no text is read", x.end(texts[sort].length()), texts[sort].length());
-            is("in the place of one that is not", x.text(sort, most[sort]), -2);
-            is("in the place of -2", x.text(sort, -2), -2);
-            is("in the place of MIN", x.text(sort, Integer.MIN_VALUE), -2);
+            noTextIsRead(x, texts[sort], sort, NONE);
+            noTextIsRead(x, texts[sort], sort, most[sort]);
+            noTextIsRead(x, texts[sort], sort, -2);
+            noTextIsRead(x, texts[sort], sort, Integer.MIN_VALUE);
+            noTextIsRead(x, "?", sort, Integer.MAX_VALUE);
+            Due.put(x, texts[sort]);
             is("in the place of the last", x.text(sort, most[sort] - 1), most[sort] - 1);
             is("count", x.count(sort), most[sort]);
         }
@@ -147,14 +148,28 @@ public final class PromiseTest {
         is("fault", x.text(ROW, 1), NONE);
         is("row 1 stays", x.row(1, 1), 8);
         is("fault told", x.fault(0), 1);
-        Due.put(x, "y");
-        is("no such sort", x.text(4, NONE), -2);
-        is("fault 0 then", x.fault(0), 0);
-        is("place NONE then", x.fault(1), NONE);
-        is("no such sort", x.text(-1, NONE), -2);
-        is("no such sort", x.text(Integer.MAX_VALUE, 0), -2);
+        noTextIsRead(x, "y", 4, NONE);
+        noTextIsRead(x, "5", -1, NONE);
+        noTextIsRead(x, "5", Integer.MAX_VALUE, 0);
+        noTextIsRead(x, "5", Integer.MIN_VALUE, 1);
+        noTextIsRead(new SilentTable(), "5", ROW, 0);
+        is("row 1 stays", x.row(1, 0), 7);
         is("fault(2)", x.fault(2), NONE);
         is("fault(-1)", x.fault(-1), NONE);
+    }
+
+    /** text() answers -2: the tape is taken all the same, and there is no FAULT, whatever it held. */
+    private void noTextIsRead(SilentTable x, String text, int sort, int at) {
+        String call = "text(" + sort + ", " + at + ")";
+        int there = x.count(sort);
+        Due.put(x, text);
+        is(call, x.text(sort, at), -2);
+        is(call + " fault(0)", x.fault(0), 0);
+        is(call + " fault(1)", x.fault(1), NONE);
+        is(call + " count", x.count(sort), there);
+        is(call + " end", x.end(1), NONE);
+        is(call + " feed", x.feed(0, 0, 0, 0, 0), 20);
+        is(call + " with nothing on the tape", x.end(0) + x.text(sort, at), -2);
     }
 
     private void faultOfForm() {

@@ -349,6 +349,8 @@ final class SlowTable {
     }
 
     int text(int sort, int at) {
+        String taken = tape.toString();
+        tape.setLength(0);
         fault = 0;
         place = NONE;
         if (sort < 0 || sort > 3) {
@@ -358,9 +360,8 @@ final class SlowTable {
         if (at == NONE ? count(sort) == most : at < 0 || at >= count(sort)) {
             return -2;
         }
-        List<Token> tokens = tokens(tape.toString());
-        int endPlace = tape.length();
-        tape.setLength(0);
+        List<Token> tokens = tokens(taken);
+        int endPlace = taken.length();
         int bad = sort == 1 ? badInRow(tokens) : badInLines(tokens, sort);
         if (bad != NONE) {
             fault = 1;
