@@ -21,6 +21,10 @@ final class Due {
         return wrong;
     }
 
+    int askedSoFar() {
+        return asked;
+    }
+
     void close(String test) {
         System.out.println(test + ": " + asked + " answers, " + wrong + " wrong");
         if (wrong != 0) {
@@ -48,5 +52,16 @@ final class Due {
     static int tell(SilentTable x, int sort, String text) {
         put(x, text);
         return x.text(sort, SilentTable.NONE);
+    }
+
+    /** A new object with texts, each begun with its sort and a blank. */
+    static SilentTable table(String... texts) {
+        SilentTable x = new SilentTable();
+        for (String text : texts) {
+            if (tell(x, text.charAt(0) - '0', text.substring(2)) < 0) {
+                throw new IllegalStateException("refused: " + text + ", fault " + x.fault(0) + " at " + x.fault(1));
+            }
+        }
+        return x;
     }
 }

@@ -55,14 +55,7 @@ public final class PromiseTest {
     }
 
     private static SilentTable table(String... texts) {
-        SilentTable x = new SilentTable();
-        for (String text : texts) {
-            int sort = text.charAt(0) - '0';
-            if (Due.tell(x, sort, text.substring(2)) < 0) {
-                throw new IllegalStateException("refused: " + text + ", fault " + x.fault(0) + " at " + x.fault(1));
-            }
-        }
-        return x;
+        return Due.table(texts);
     }
 
     private void is(String call, long got, long want) {
