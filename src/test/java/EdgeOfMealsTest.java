@@ -88,6 +88,7 @@ public final class EdgeOfMealsTest extends Edges {
         is("none said", x.meal(1, 2), 0);
         is("none secret", x.meal(1, 3), 0);
         is("look and away are not said", table("2 look 0 1;away 0;").meal(0, 2), 0);
+        is("said, none of them secret", table("2 look 0 1;" + "says 1 0;".repeat(49)).meal(0, 2), 49);
         sentence("Promise 22", "NONE: there is none such, or for another what");
         takes("meal", 0, 1, NONE, m -> x.meal(m, 0));
         takesJust("what", NONE, what -> x.meal(0, what), 0, 1, 2, 3);
@@ -407,6 +408,9 @@ public final class EdgeOfMealsTest extends Edges {
         broken("pair 1 2;", "says 0 1;says 0 2;", 1);
         broken("pair 1 2;", "says 0 2;");
         broken("pair 1 2;", "says 0 2;says 0 1;");
+        broken("pair 0 2;", "says 0 2;");
+        broken("pair 0 0;", "says 0 0;says 1 0;says 2 0;");
+        broken("pair 0 0;", "says 0 0;says 3 0;says 3 0;", 2);
         broken("pair 1 2;", "says 0 1;says 0 1;says 0 2;says 0 2;", 2);
         broken("pair 1 1;", "says 0 1;says 0 1;says 0 1;", 1, 2);
         broken("pair 1 1;", "says 0 1;says 1 1;");
@@ -496,6 +500,11 @@ public final class EdgeOfMealsTest extends Edges {
         is("none is broken", x.mildest(0, 0), 0);
         instead(x, HOUSE, 0, "never 1;");
         is("the only law", x.mildest(0, 0), 0);
+        SilentTable full = table("3 never 9;most 9 0;seen 9;", "2 " + "says 0 9;".repeat(50), "3 never 8;never 9;", "2 says 0 8;says 0 9;says 0 9;");
+        is("fifty deeds without any one of them", full.mildest(0, 0), 0);
+        is("fifty deeds without the first", full.mildest(1, 0), 1);
+        is("fewer deeds behind more", full.mildest(1, 1), 1);
+        is("fewer deeds behind more", full.sins(1, 1, NONE), 3);
         sentence("Promise 34", "NONE: there are no LAWS");
         is("no laws", x.mildest(1, 0), NONE);
         sentence("Promise 34", "NONE: there is none such (of either)");
@@ -553,6 +562,8 @@ public final class EdgeOfMealsTest extends Edges {
         is("look and away are not says", table("2 away 0;away 1;look 2 1;").hears(0, 1), 0);
         is("he looks away again", table("2 look 0 1;says 0 0;away 0;says 0 0;says 1 0;").hears(0, 1), 2);
         is("others look at him", table("2 look 1 0;says 0 0;").hears(0, 1), 1);
+        is("the last seat looks", table("2 seats 6;look 5 0;says 5 0;says 4 0;says 0 0;").hears(0, 1), 2);
+        is("the last seat does not", table("2 seats 6;look 0 5;look 4 5;look 1 5;says 5 0;says 5 0;says 4 0;").hears(0, 1), 2);
         sentence("Terms 5", "EYES of a SEAT: how many DEEDS that are says it SAW, of all others: all, none");
         SilentTable x = table("2 look 0 1;" + "says 1 0;".repeat(49), "2 look 0 1;says 1 0;says 2 0;look 0 2;says 2 0;says 1 0;says 0 0;");
         is("all", x.hears(0, 10), 49);

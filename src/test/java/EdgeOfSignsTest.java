@@ -16,6 +16,10 @@ public final class EdgeOfSignsTest extends Edges {
         t.valuesGoRound();
         t.unlikeTrees();
         t.oneSign();
+        t.severalKinds();
+        t.bothParts();
+        t.allMeanings();
+        t.nearIsNoMeaning();
         t.orderOfTrees();
         t.manyTrees();
         t.trees();
@@ -30,6 +34,7 @@ public final class EdgeOfSignsTest extends Edges {
         t.lasts();
         t.briefSizes();
         t.briefJustOneTree();
+        t.briefAgain();
         t.sureByHands();
         t.briefRefused();
         t.apartSizes();
@@ -120,6 +125,103 @@ public final class EdgeOfSignsTest extends Edges {
         is("and no more", x.trees(0, 2, 1, 0, 1), 0);
     }
 
+    private void severalKinds() {
+        sentence("Terms 2", "over more: a RULE for that KIND, a TREE of the first KIND over the first part, one of the second KIND over the other");
+        // Every KIND is needed: 5 of 4 and 3, 2 of 5 and 1, 0 of 2 and 2.
+        String kinds = "rule 2 5 1 plus;rule 5 4 3 less;rule 0 2 2 plus;sign 4 4 9;sign 3 3 4;sign 1 1 20;sign 2 2 30;sign 0 0 1;";
+        SilentTable x = table("0 " + kinds, "1 4 3 1 2", "1 2 4 3 1", "1 4 3 1 4 3 1");
+        is("9 - 4 + 20 + 30", x.means(0, 0, 0), 5);
+        is("30 + 9 - 4 + 20", x.means(0, 1, 0), 5);
+        is("twice 9 - 4 + 20", x.means(0, 2, 0), 0);
+        for (int row = 0; row < 3; row++) {
+            is("one meaning", x.means(0, row, NONE), 1);
+            is("one way", x.ways(0, row, row == 2 ? 0 : 5), 1);
+            is("one tree", x.tree(0, row, 0, 0), row == 2 ? 0 : 5);
+            is("its rule", x.tree(0, row, 0, 1), 2);
+            is("no other tree", x.tree(0, row, 1, 0), MISSING);
+        }
+        int[] want = {16, 8, 2, 4};
+        for (int i = 0; i < 4; i++) {
+            is("kinds of one sign", x.can(0, 0, i, i), want[i]);
+        }
+        is("kinds of 4 3", x.can(0, 0, 0, 1), 32);
+        is("kinds of 4 3 1", x.can(0, 0, 0, 2), 4);
+        is("kinds of 3 1", x.can(0, 0, 1, 2), 0);
+        is("kinds of all", x.can(0, 0, 0, 3), 1);
+        is("the first cut", x.tree(0, 0, 0, 2), 3);
+        is("the other row's cut", x.tree(0, 1, 0, 2), 1);
+        brief(x, 10, NONE, 2, 2);
+        brief(x, 5, NONE, 2, 4, 3, 1);
+        is("rows of four", x.all(0, 4, 0), 2);
+    }
+
+    private void bothParts() {
+        sentence("Terms 2", "a TREE of the first KIND over the first part, one of the second KIND over the other: neither is enough");
+        for (String act : new String[] {"head", "tail", "plus", "less", "not"}) {
+            String list = "rule 0 1 2 " + act + ";rule 0 3 4 " + act + ";rule 1 5 5 " + act + ";sign 0 1 5;sign 1 4 6;";
+            SilentTable x = table("0 " + list, "0 ", "1 0 0", "1 1 1", "1 0 1");
+            for (int row = 0; row < 3; row++) {
+                is(act + " means", x.means(0, row, NONE), 0);
+                is(act + " trees", x.trees(0, row, 0, 0, 1), 0);
+                is(act + " can", x.can(0, row, 0, 1), 0);
+                is(act + " doubt", x.doubt(0, row, 0) + x.doubt(0, row, 1), 0);
+                for (int value = 0; value < 50; value++) {
+                    is(act + " ways", x.ways(0, row, value), 0);
+                }
+            }
+            is(act + " apart", x.apart(0, 1, 0), NONE);
+            is(act + " all", x.all(0, 2, 0) + x.all(0, 3, 0) + x.all(0, 4, 0), 0);
+        }
+    }
+
+    /** What four calls say of the same trees, for every value, goes together. */
+    private void allMeanings() {
+        sentence("Terms 2", "MEANINGS of a ROW: VALUES of TREES of KIND 0: those of every READING, RULE and cut");
+        String[] lists = {
+            "rule 0 0 0 plus;rule 0 0 0 less;sign 0 0 1;sign 0 0 2;sign 1 0 49;sign 1 0 0;",
+            "rule 0 1 1 head;rule 0 1 1 tail;rule 1 0 0 not;rule 1 1 0 plus;sign 0 1 7;sign 0 1 7;sign 1 0 0;sign 1 1 49;",
+            "rule 0 0 1 head;rule 0 1 0 head;rule 1 0 0 plus;rule 1 2 1 less;sign 0 0 0;sign 0 1 0;sign 1 0 49;sign 1 2 0;sign 0 2 49;sign 0 2 49;",
+            "rule 0 5 5 plus;rule 5 0 5 tail;rule 0 5 0 not;sign 0 5 3;sign 0 5 4;sign 0 5 3;sign 1 5 0;sign 1 0 25;sign 1 0 25;"};
+        for (String list : lists) {
+            SilentTable x = table("0 " + list, "1 0 1 0 1", "1 1 0 0 1 1 0", "1 1");
+            for (int row = 0; row < 3; row++) {
+                long trees = x.trees(0, row, 0, 0, x.row(row, NONE) - 1);
+                int[] byTrees = new int[50];
+                for (int n = 0; n < trees; n++) {
+                    byTrees[x.tree(0, row, n, 0)]++;
+                }
+                int meanings = 0;
+                for (int value = 0; value < 50; value++) {
+                    is(list + " ways of " + value, x.ways(0, row, value), byTrees[value]);
+                    if (byTrees[value] > 0) {
+                        is(list + " meaning", x.means(0, row, meanings), value);
+                        meanings++;
+                    }
+                }
+                is(list + " meanings", x.means(0, row, NONE), meanings);
+                is(list + " one more", x.tree(0, row, trees, 0), MISSING);
+            }
+        }
+    }
+
+    private void nearIsNoMeaning() {
+        sentence("Terms 2", "MEANINGS of a ROW: of its own SIGNS, whatever they may be taken for");
+        SilentTable x = table("0 rule 0 0 0 plus;sign 0 0 5;sign 1 0 6;near 0 1;near 2 0;near 1 2;", "1 0", "1 1", "1 2 0", "2 look 1 0;says 0 0;");
+        is("means", x.means(0, 0, NONE), 1);
+        is("like", x.like(0, 0, 1), 0);
+        is("like, the other way round", x.like(0, 1, 0), 0);
+        is("hole", x.hole(0, 2, 1), 0);
+        is("ways", x.ways(0, 0, 6), 0);
+        is("trees", x.trees(0, 0, 0, 0, 0), 1);
+        is("idle", x.idle(0, 2), 2);
+        is("knows", x.knows(0, 0, 1, 0, NONE), 1);
+        is("sure", x.sure(0, 0, 0), 2);
+        is("all", x.all(0, 1, 1), 2);
+        brief(x, 6, NONE, 1);
+        brief(x, 6, 0, 1);
+        brief(x, 5, 1);
+    }
+
     private void orderOfTrees() {
         sentence("Terms 2", "over one SIGN by numbers of READINGS");
         SilentTable x = table("0 sign 0 0 9;sign 1 0 8;sign 0 1 8;sign 0 0 3;sign 0 0 6;", "1 0");
@@ -152,6 +254,14 @@ public final class EdgeOfSignsTest extends Edges {
             is(call + " value", y.tree(0, 0, n, 0), head == shortFirst ? single + 1 : pairValue);
         }
         is("no further one", y.tree(0, 0, 64, 0), MISSING);
+        SilentTable z = table("0 rule 1 2 2 not;rule 2 2 2 not;rule 0 2 2 head;rule 5 2 2 not;rule 0 2 2 tail;sign 0 1 7;sign 0 2 1;sign 0 2 2;", "1 0 0");
+        int[] values = {1, 1, 2, 2, 1, 2, 1, 2};
+        for (int n = 0; n < 8; n++) {
+            is("value of tree " + n, z.tree(0, 0, n, 0), values[n]);
+            is("rule of tree " + n, z.tree(0, 0, n, 1), n < 4 ? 2 : 4);
+            is("readings of tree " + n, z.tree(0, 0, n, 10) * 10 + z.tree(0, 0, n, 11), 11 + n / 2 % 2 * 10 + n % 2);
+        }
+        is("no further one", z.tree(0, 0, 8, 0), MISSING);
     }
 
     private void manyTrees() {
@@ -195,6 +305,12 @@ public final class EdgeOfSignsTest extends Edges {
         is("most of four", y.all(0, 4, 2), 327680000);
         is("a tree", y.tree(0, 0, MILLION_MILLIONS - 1, 0), 7);
         is("meanings", y.means(0, 0, NONE), 1);
+        // The last eleven signs have more trees than any n, so the first one has its first reading.
+        for (long n : new long[] {0, 1, MILLION_MILLIONS - 1}) {
+            is("the first reading of tree " + n, y.tree(0, 0, n, 10), 0);
+            is("the first cut of tree " + n, y.tree(0, 0, n, 2), 1);
+            is("the last reading of tree " + n, y.tree(0, 0, n, 21), n % 16);
+        }
     }
 
     private void trees() {
@@ -438,6 +554,8 @@ public final class EdgeOfSignsTest extends Edges {
         sentence("Terms 3", "which has just one TREE of KIND 0, and that VALUE");
         brief(table("0 sign 0 0 5;sign 0 0 5;"), 5, NONE);
         brief(table("0 sign 0 0 5;sign 0 0 6;"), 5, NONE);
+        brief(table("0 sign 0 0 0;sign 0 0 0;"), 0, NONE);
+        brief(table("0 rule 0 1 1 head;rule 0 1 1 head;sign 0 1 0;"), 0, NONE);
         brief(table("0 sign 0 0 5;sign 0 1 5;"), 5, NONE, 0);
         brief(table("0 sign 0 1 5;"), 5, NONE);
         brief(table("0 rule 0 0 0 head;sign 0 0 5;sign 0 0 5;sign 1 0 5;"), 5, NONE, 1);
@@ -446,6 +564,28 @@ public final class EdgeOfSignsTest extends Edges {
         // Three signs have two trees, by their cuts.
         brief(table("0 rule 0 0 0 plus;sign 0 0 1;"), 2, NONE, 0, 0);
         brief(table("0 rule 0 0 0 plus;sign 0 0 1;"), 3, NONE);
+    }
+
+    private void briefAgain() {
+        sentence("Promise 17", "BRIEF, SURE, ALL, APART of a LIST as it is told now");
+        SilentTable x = table("0 rule 0 0 0 plus;sign 0 0 5;sign 3 0 0;near 0 3;", "0 sign 0 0 5;");
+        brief(x, 5, 9);
+        brief(x, 5, NONE, 0);
+        brief(x, 5, 9);
+        brief(x, 5, 0, 0);
+        is("all", x.all(0, 1, 0) * 1000 + x.all(0, 2, 1) * 10 + x.all(0, 3, 2), 2042);
+        is("apart", x.apart(0, 1, 0) * 10 + x.apart(0, 1, 1), 13);
+        instead(x, LIST, 0, "sign 0 0 5;sign 0 0 5;sign 7 1 0;sign 8 0 5;sign 9 0 0;sign 9 0 0;");
+        brief(x, 5, 0, 8);
+        brief(x, 0, 0);
+        brief(x, 0, NONE);
+        is("all", x.all(0, 1, 0) * 1000 + x.all(0, 1, 1) * 100 + x.all(0, 1, 2), 3102);
+        is("all of two", x.all(0, 2, 0) + x.all(0, 2, 1) + x.all(0, 2, 2), 0);
+        is("apart", x.apart(0, 1, 0) * 10 + x.apart(0, 1, 1), 18);
+        instead(x, LIST, 1, "sign 8 0 5;sign 9 0 0;");
+        is("apart", x.apart(0, 1, 0) * 10 + x.apart(0, 1, 1), 10);
+        instead(x, LIST, 0, "sign 8 0 5;sign 9 0 0;");
+        is("apart", x.apart(0, 1, 0), NONE);
     }
 
     private void sureByHands() {
@@ -509,6 +649,20 @@ public final class EdgeOfSignsTest extends Edges {
         is("one and two", none.apart(0, 1, 1), 5);
         instead(none, LIST, 1, "sign 9 0 0;sign 9 0 0;sign 5 0 0;sign 5 1 1;");
         is("another number of trees is not another meaning", none.apart(0, 1, 0), NONE);
+        instead(none, LIST, 1, "sign 9 0 0;sign 5 0 1;sign 5 0 0;");
+        is("one of two", none.apart(0, 1, 1), 5);
+        instead(none, LIST, 1, "sign 9 0 0;sign 5 0 0;sign 0 0 0;");
+        is("the first sign", none.apart(0, 1, 0) * 10 + none.apart(0, 1, 1), 10);
+        String zero = "rule 0 1 1 head;sign 0 1 1;sign 0 1 2;sign 1 1 0;";
+        instead(none, LIST, 0, zero);
+        instead(none, LIST, 1, zero + "rule 0 1 1 head;rule 0 1 1 tail;");
+        is("by a further rule", none.apart(0, 1, 0) * 100 + none.apart(0, 1, 1) * 10 + none.apart(0, 1, 2), 201);
+        instead(none, LIST, 1, "rule 0 1 1 tail;rule 0 1 1 head;sign 0 1 1;sign 0 1 2;sign 1 1 0;");
+        is("by a rule more, told first", none.apart(0, 1, 0) * 100 + none.apart(0, 1, 1) * 10 + none.apart(0, 1, 2), 201);
+        instead(none, LIST, 1, zero + "rule 0 0 1 head;");
+        is("the first row of three", none.apart(0, 1, 0) * 1000 + none.apart(0, 1, 1) * 100 + none.apart(0, 1, 2) * 10 + none.apart(0, 1, 3), 3000);
+        instead(none, LIST, 1, "sign 0 1 1;sign 0 1 2;sign 1 1 0;");
+        is("the first row of two", none.apart(0, 1, 0) * 100 + none.apart(0, 1, 1) * 10 + none.apart(0, 1, 2), 200);
     }
 
     private void apartRefused() {
@@ -588,6 +742,20 @@ public final class EdgeOfSignsTest extends Edges {
         is("the first place", x.doubt(1, 2, 0), 2);
         is("the second place", x.doubt(1, 2, 1), 1);
         is("one sign", x.doubt(1, 1, 0), 1);
+        // Of kind 2 one reading, of kind 3 two, of kind 4 three; kind 5 is in no tree of kind 0.
+        String readings = "sign 0 2 0;sign 0 3 0;sign 0 3 0;sign 0 4 0;sign 0 4 0;sign 0 4 0;sign 0 5 0;";
+        instead(x, LIST, 1, "rule 0 2 3 plus;rule 1 5 5 plus;" + readings);
+        is("the first place", x.doubt(1, 2, 0), 1);
+        is("the second place", x.doubt(1, 2, 1), 2);
+        instead(x, LIST, 1, "rule 0 2 3 plus;rule 0 4 2 plus;rule 5 3 4 plus;" + readings);
+        is("the first place by two rules", x.doubt(1, 2, 0), 4);
+        is("the second place by two rules", x.doubt(1, 2, 1), 3);
+        instead(x, LIST, 1, "rule 0 2 1 plus;rule 0 1 3 plus;rule 0 4 4 plus;rule 1 5 5 plus;" + readings);
+        is("both parts are needed", x.doubt(1, 2, 0) * 10 + x.doubt(1, 2, 1), 33);
+        instead(x, ROW, 2, "0 0 0");
+        is("the first of three", x.doubt(1, 2, 0), 2);
+        is("the second of three", x.doubt(1, 2, 1), 1);
+        is("the third of three", x.doubt(1, 2, 2), 3);
         sentence("Promise 21", "NONE: there is none such (of any)");
         takes("place of twelve", 0, 11, NONE, place -> x.doubt(0, 0, place));
         takes("place of one", 0, 0, NONE, place -> x.doubt(0, 1, place));

@@ -613,6 +613,32 @@ public final class EdgeOfTextsTest extends Edges {
             is("text", x.text(ROW, NONE), 0);
             is("its signs", x.row(0, NONE), (n + 1) / 2 + 1);
         }
+        sentence("Promise 3", "its first n bytes alone: what was behind them is no part of a token");
+        String text = " ".repeat(580) + "near 1 2;never 123 4";
+        int[] lengths = {581, 584, 586, 588, 589, 590, 595, 597, 598, 599, 600};
+        int[][] faults = {{1, 580}, {1, 584}, {1, 586}, {1, 588}, {0, NONE}, {1, 589}, {1, 589}, {1, 589}, {1, 589}, {1, 589}, {1, 589}};
+        for (int i = 0; i < lengths.length; i++) {
+            SilentTable x = new SilentTable();
+            Due.put(x, text);
+            is("end", x.end(lengths[i]), lengths[i]);
+            is("text of " + lengths[i], x.text(LIST, NONE), faults[i][0] == 0 ? 0 : NONE);
+            is("fault of " + lengths[i], x.fault(0), faults[i][0]);
+            is("place of " + lengths[i], x.fault(1), faults[i][1]);
+        }
+        SilentTable words = new SilentTable();
+        Due.put(words, "nearly");
+        is("end", words.end(4), 4);
+        is("text", words.text(LIST, NONE), NONE);
+        is("near goes on", words.fault(1), 4);
+        is("near, and nothing behind the tape", Due.tell(words, LIST, " ".repeat(596) + "near"), NONE);
+        is("near goes on", words.fault(1), 600);
+        SilentTable digits = new SilentTable();
+        Due.put(digits, "1".repeat(600));
+        is("end", digits.end(1), 1);
+        is("one digit", digits.text(ROW, NONE), 0);
+        Due.put(digits, "1".repeat(600));
+        is("end", digits.end(2), 2);
+        is("two digits", digits.text(ROW, NONE) + digits.fault(0), 1);
         sentence("Promise 3", "NONE if it has not so many, or n is below 0");
         for (int size : new int[] {0, 1, 20, 599, 600}) {
             SilentTable x = new SilentTable();
@@ -657,6 +683,17 @@ public final class EdgeOfTextsTest extends Edges {
         is("row 0", x.row(0, 0), 0);
         is("row 1", x.row(1, 1), 8);
         is("row 2", x.row(2, 0), 2);
+        sentence("Promise 4", "a text of a sort: those of other sorts stay");
+        SilentTable y = table("0 sign 7 0 0;", "0 sign 8 0 0;", "1 7", "1 8", "2 says 0 7;", "2 says 0 8;", "3 seen 7;", "3 seen 8;");
+        for (int sort = 0; sort < 4; sort++) {
+            instead(y, sort, 0, PLAIN[sort]);
+            for (int n = 0; n < 2; n++) {
+                is("list " + n, y.reading(n, 0, 0), n == 0 ? 0 : 8);
+                is("row " + n, y.row(n, 0), n == 0 ? sort < ROW ? 7 : 0 : 8);
+                is("meal " + n, y.deed(n, 0, 2), n == 0 ? sort < MEAL ? 7 : 0 : 8);
+                is("house " + n, y.law(n, 0, 1), n == 0 ? sort < HOUSE ? 7 : 0 : 8);
+            }
+        }
     }
 
     private void textRefused() {
@@ -766,7 +803,8 @@ public final class EdgeOfTextsTest extends Edges {
         instead(x, LIST, 1, "sign 0 0 0;");
         is("rule of none", x.rule(1, 0, 0), NONE);
         sentence("Promise 7", "NONE for another what");
-        takesJust("what", NONE, what -> x.rule(0, 9, what), 0, 1, 2, 3);
+        takesJust("what of the first", NONE, what -> x.rule(0, 0, what), 0, 1, 2, 3);
+        takesJust("what of the last", NONE, what -> x.rule(0, 9, what), 0, 1, 2, 3);
     }
 
     private void reading() {
@@ -778,7 +816,8 @@ public final class EdgeOfTextsTest extends Edges {
         instead(x, LIST, 1, "rule 0 0 0 head;");
         is("reading of none", x.reading(1, 0, 0), NONE);
         sentence("Promise 8", "NONE for another what");
-        takesJust("what", NONE, what -> x.reading(0, 15, what), 0, 1, 2);
+        takesJust("what of the first", NONE, what -> x.reading(0, 0, what), 0, 1, 2);
+        takesJust("what of the last", NONE, what -> x.reading(0, 15, what), 0, 1, 2);
     }
 
     private void row() {
@@ -848,18 +887,22 @@ public final class EdgeOfTextsTest extends Edges {
         is("a fault", x.text(ROW, 2), NONE);
         Due.put(x, " ".repeat(599) + "7");
         is("image", x.image(2), true);
-        instead(x, LIST, 1, "");
-        instead(x, ROW, 2, "9 9");
-        instead(x, MEAL, 1, "");
-        instead(x, HOUSE, 1, "");
+        for (int at = 0; at < 2; at++) {
+            instead(x, LIST, at, "");
+            instead(x, ROW, at + 1, "9 9");
+            instead(x, MEAL, at, "");
+            instead(x, HOUSE, at, "");
+        }
         for (int n = 0; n < 2; n++) {
             is("again", x.again(2), true);
             is("fault", x.fault(0), 1);
             is("place", x.fault(1), 2);
-            is("list", x.list(1, 1), 1);
-            is("row", x.row(2, NONE), 1);
-            is("meal", x.meal(1, 1), 1);
-            is("house", x.law(1, NONE, 0), 1);
+            for (int at = 0; at < 2; at++) {
+                is("list", x.list(at, 1), 1);
+                is("row", x.row(at + 1, NONE), 1);
+                is("meal", x.meal(at, 1), 1);
+                is("house", x.law(at, NONE, 0), 1);
+            }
             is("full", x.feed(0, 0, 0, 0, 0), NONE);
             is("its tape", x.text(ROW, 0), 0);
             is("the last byte of it", x.row(0, 0), 7);

@@ -9,11 +9,14 @@ public final class ModelTest {
     private final Due due = new Due();
     private final Random random;
     private final int run;
+    /** Whether all texts are as long as they may be. */
+    private final boolean full;
     private SilentTable x = new SilentTable();
     private SlowTable y = new SlowTable();
 
     private ModelTest(int run) {
         this.run = run;
+        full = run % 10 == 7;
         random = new Random(run);
         // Most runs begin with a full table, so that most calls have something to answer.
         for (int n = 0; n < 18 && run % 8 != 0; n++) {
@@ -22,7 +25,7 @@ public final class ModelTest {
     }
 
     public static void main(String[] args) {
-        int runs = args.length > 0 ? Integer.parseInt(args[0]) : 400;
+        int runs = args.length > 0 ? Integer.parseInt(args[0]) : 120;
         int first = args.length > 1 ? Integer.parseInt(args[1]) : 0;
         int wrong = 0;
         int asked = 0;
@@ -111,6 +114,69 @@ public final class ModelTest {
             }
         }
         return text.toString();
+    }
+
+    /** Ten rules, sixteen readings, and as many that are near as fit. */
+    private String fullListText() {
+        int kinds = 1 + below(6);
+        int signs = 1 + below(4);
+        int values = below(2) == 0 ? 50 : 4;
+        StringBuilder text = new StringBuilder();
+        for (int n = 0; n < 10; n++) {
+            text.append("rule ").append(below(kinds)).append(" ").append(below(kinds)).append(" ").append(below(kinds));
+            text.append(" ").append(ACTS[below(5)]).append(";");
+        }
+        for (int n = 0; n < 16; n++) {
+            text.append("sign ").append(below(signs)).append(" ").append(below(kinds)).append(" ").append(below(values)).append(";");
+        }
+        for (int n = below(2) * 27; n > 0 && text.length() <= 591; n--) {
+            int one = below(10);
+            text.append("near ").append(one).append(" ").append((one + 1 + below(9)) % 10).append(";");
+        }
+        return text.toString();
+    }
+
+    private String fullMealText() {
+        StringBuilder text = new StringBuilder("seats 6;");
+        int quiet = below(3);
+        for (int n = 0; n < 50; n++) {
+            int one = below(6);
+            if (below(3) >= quiet) {
+                text.append("says ").append(one).append(" ").append(below(4)).append(";");
+            } else if (below(5) > 0) {
+                text.append("look ").append(one).append(" ").append((one + 1 + below(5)) % 6).append(";");
+            } else {
+                text.append("away ").append(one).append(";");
+            }
+        }
+        return text.toString();
+    }
+
+    private String fullRowText() {
+        StringBuilder text = new StringBuilder();
+        int signs = 1 + below(4);
+        for (int n = 0; n < 12; n++) {
+            text.append(below(signs)).append(" ");
+        }
+        return text.toString();
+    }
+
+    private String fullHouseText() {
+        StringBuilder text = new StringBuilder();
+        for (int n = 0; n < 8; n++) {
+            int law = below(6);
+            text.append(LAWS[law]).append(" ").append(below(4)).append(law >= 1 && law <= 3 ? " " + below(law == 1 ? 10 : 4) : "").append(";");
+        }
+        return text.toString();
+    }
+
+    private String fullText(int sort) {
+        return switch (sort) {
+            case 0 -> fullListText();
+            case 1 -> fullRowText();
+            case 2 -> fullMealText();
+            default -> fullHouseText();
+        };
     }
 
     private String listText() {
@@ -242,7 +308,7 @@ public final class ModelTest {
             case 2 -> mealText();
             default -> houseText();
         };
-        text = spoilt(text);
+        text = full && below(6) > 0 ? fullText(sort) : spoilt(text);
         put(text);
         String call = "text(" + sort + ", " + at + ") of " + text.replace("\n", "\\n");
         is(call, x.text(sort, at), y.text(sort, at));
@@ -292,6 +358,10 @@ public final class ModelTest {
         is("ways(" + l + "," + r + "," + v + ")", x.ways(l, r, v), y.ways(l, r, v));
         int place = inRow(r);
         long n = below(8) == 0 ? ODD[below(ODD.length)] : below(below(2) == 0 ? 3 : 200);
+        if (below(3) == 0) {
+            long whole = y.trees(l, r, 0, 0, y.row(r, -1) - 1);
+            n = below(3) == 0 ? whole - below(3) : Math.floorMod(random.nextLong(), Math.max(1, whole));
+        }
         for (int what : new int[] {0, 1, 2, 3, 9, 10, 11, 12, 13, 14, near(30)}) {
             is("tree(" + l + "," + r + "," + n + "," + what + ")", x.tree(l, r, n, what), y.tree(l, r, n, what));
         }

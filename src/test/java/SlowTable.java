@@ -15,6 +15,8 @@ import java.util.regex.Pattern;
 final class SlowTable {
     static final int NONE = -1;
     static final BigInteger TOLD_MOST = BigInteger.TEN.pow(12);
+    /** Up to so many, the ROWS that may come of one are made one by one. */
+    static final int FEW_ROWS = 300;
 
     /** Thrown where the plain way would take too long; such a call is not compared. */
     static final class TooMuch extends RuntimeException {
@@ -42,7 +44,7 @@ final class SlowTable {
         final Map<String, TreeMap<Integer, BigInteger>> known = new HashMap<>();
 
         Signs(List<Line> lines) {
-            for (int s = 0; s < 10; s++) {
+            for (int s = 0; s < 22; s++) {
                 near.put(s, new TreeSet<>());
             }
             for (Line line : lines) {
@@ -133,6 +135,75 @@ final class SlowTable {
             return trees;
         }
 
+        /** The n-th TREE alone, where there are too many to grow them all. */
+        Tree nth(List<Integer> row, int kind, BigInteger n) {
+            if (row.size() == 1) {
+                return grow(row, kind).get(n.intValueExact());
+            }
+            BigInteger left = n;
+            for (int cut = 1; cut < row.size(); cut++) {
+                List<Integer> one = row.subList(0, cut);
+                List<Integer> two = row.subList(cut, row.size());
+                for (int k = 0; k < rules.size(); k++) {
+                    Line r = rules.get(k);
+                    BigInteger seconds = count(two, r.n(2));
+                    BigInteger here = r.n(0) == kind ? count(one, r.n(1)).multiply(seconds) : BigInteger.ZERO;
+                    if (left.compareTo(here) < 0) {
+                        BigInteger[] both = left.divideAndRemainder(seconds);
+                        Tree u = nth(one, r.n(1), both[0]);
+                        Tree v = nth(two, r.n(2), both[1]);
+                        List<Integer> all = new ArrayList<>(u.readings());
+                        all.addAll(v.readings());
+                        return new Tree(act(r.act(), u.value(), v.value()), k, cut, all);
+                    }
+                    left = left.subtract(here);
+                }
+            }
+            throw new IllegalStateException("there is none such");
+        }
+
+        /** The same LIST with further SIGNS, from 10 on: each has all READINGS of some others. */
+        Signs withFurther(List<Set<Integer>> further) {
+            List<Line> lines = new ArrayList<>(rules);
+            lines.addAll(readings);
+            for (int i = 0; i < further.size(); i++) {
+                for (Line r : readings) {
+                    if (further.get(i).contains(r.n(0))) {
+                        lines.add(new Line("sign", List.of(10 + i, r.n(1), r.n(2)), null));
+                    }
+                }
+            }
+            return new Signs(lines);
+        }
+
+        /** Whether a READING can stand at a place: a SIGN of its own that has it alone does as well there. */
+        boolean fits(List<Integer> row, int place, int reading) {
+            List<Line> lines = new ArrayList<>();
+            // VALUES do not matter for that, so all are 0.
+            for (Line r : rules) {
+                lines.add(new Line("rule", r.numbers(), "head"));
+            }
+            for (Line r : readings) {
+                lines.add(new Line("sign", List.of(r.n(0), r.n(1), 0), null));
+            }
+            lines.add(new Line("sign", List.of(10, readings.get(reading).n(1), 0), null));
+            List<Integer> changed = new ArrayList<>(row);
+            changed.set(place, 10);
+            return new Signs(lines).count(changed, 0).signum() > 0;
+        }
+
+        Set<Integer> reached(int sign, int hands) {
+            Set<Integer> now = new TreeSet<>(Set.of(sign));
+            for (int h = 0; h < hands; h++) {
+                Set<Integer> next = new TreeSet<>(now);
+                for (int one : now) {
+                    next.addAll(near.get(one));
+                }
+                now = next;
+            }
+            return now;
+        }
+
         Set<List<Integer>> worn(List<Integer> row, int hands) {
             Set<List<Integer>> now = new LinkedHashSet<>();
             now.add(row);
@@ -172,6 +243,17 @@ final class SlowTable {
         }
 
         TreeSet<Integer> could(List<Integer> row, int hands) {
+            BigInteger rows = BigInteger.ONE;
+            List<Set<Integer>> may = new ArrayList<>();
+            List<Integer> places = new ArrayList<>();
+            for (int i = 0; i < row.size(); i++) {
+                may.add(reached(row.get(i), hands));
+                places.add(10 + i);
+                rows = rows.multiply(BigInteger.valueOf(may.get(i).size()));
+            }
+            if (rows.compareTo(BigInteger.valueOf(FEW_ROWS)) > 0) {
+                return new TreeSet<>(withFurther(may).meanings(places));
+            }
             TreeSet<Integer> all = new TreeSet<>();
             for (List<Integer> one : worn(row, hands)) {
                 all.addAll(meanings(one));
@@ -589,7 +671,8 @@ final class SlowTable {
         if (what < 0 || what > 2 && what < 10 || what >= 10 + r.size()) {
             return -2;
         }
-        Tree t = s.grow(r, 0).get((int) n);
+        boolean many = s.count(r, 0).compareTo(BigInteger.valueOf(3000)) > 0;
+        Tree t = many ? s.nth(r, 0, BigInteger.valueOf(n)) : s.grow(r, 0).get((int) n);
         return what == 0 ? t.value() : what == 1 ? t.rule() : what == 2 ? t.cut() : t.readings().get(what - 10);
     }
 
@@ -602,7 +685,14 @@ final class SlowTable {
     long worn(int list, int row, int h) {
         Signs s = at(lists, list);
         List<Integer> r = at(rows, row);
-        return s == null || r == null || h < 0 || h > 9 ? NONE : s.worn(r, h).size();
+        if (s == null || r == null || h < 0 || h > 9) {
+            return NONE;
+        }
+        long rows = 1;
+        for (int sign : r) {
+            rows *= s.reached(sign, h).size();
+        }
+        return rows > FEW_ROWS ? rows : s.worn(r, h).size();
     }
 
     int lasts(int list, int row) {
@@ -707,6 +797,14 @@ final class SlowTable {
             return NONE;
         }
         Set<Integer> used = new TreeSet<>();
+        if (s.count(r, 0).compareTo(BigInteger.valueOf(3000)) > 0) {
+            for (int k = 0; k < s.readings.size(); k++) {
+                if (s.readings.get(k).n(0) == r.get(place) && s.fits(r, place, k)) {
+                    used.add(k);
+                }
+            }
+            return used.size();
+        }
         for (Tree t : s.grow(r, 0)) {
             used.add(t.readings().get(place));
         }
