@@ -271,6 +271,7 @@ public final class EdgeOfMealsTest extends Edges {
         sentence("Promise 28", "NONE: it can't be");
         is("nobody looks", x.passed(0, 1, 2), NONE);
         is("without deeds", table("2 ").passed(0, 0, 1), NONE);
+        is("says and away alone", table("2 says 1 0;says 2 1;away 1;").passed(0, 0, 1), NONE);
         sentence("Promise 28", "NONE: both are one");
         for (int seat = 0; seat < 6; seat++) {
             is("both are " + seat, x.passed(0, seat, seat), NONE);
@@ -540,6 +541,10 @@ public final class EdgeOfMealsTest extends Edges {
         takesJust("what of one", NONE, what -> y.asks(0, 49, 0, 0, 1, what), 0, 1);
         takesJust("what of two", NONE, what -> y.asks(0, 5, 0, 0, 1, what), 0, 1, 2);
         takesJust("what of none", NONE, what -> y.asks(0, 6, 0, 0, 1, what));
+        is("a value that is there", y.asks(0, 5, 0, 0, 1, 0), 2);
+        instead(y, LIST, 0, "sign 0 0 0;");
+        is("no value, of a list told anew", y.asks(0, -1, 0, 0, 1, 0), NONE);
+        is("a value that was there", y.asks(0, 5, 0, 0, 1, 0), NONE);
     }
 
     private void loudest() {

@@ -19,6 +19,7 @@ public final class EdgeOfSignsTest extends Edges {
         t.severalKinds();
         t.bothParts();
         t.allMeanings();
+        t.allValuesOfOneKind();
         t.nearIsNoMeaning();
         t.orderOfTrees();
         t.manyTrees();
@@ -204,6 +205,16 @@ public final class EdgeOfSignsTest extends Edges {
         }
     }
 
+    private void allValuesOfOneKind() {
+        sentence("Terms 2", "MEANINGS of a ROW: a part may have all VALUES of one KIND, and one of another");
+        SilentTable x = table("0 " + FIFTY + "rule 1 0 0 head;rule 0 1 2 tail;sign 2 2 7;", "1 0 1 2", "1 0 1");
+        is("the part", x.means(0, 1, NONE), 50);
+        is("its kinds", x.can(0, 1, 0, 1), 3);
+        is("the whole", x.means(0, 0, NONE), 1);
+        is("its meaning", x.means(0, 0, 0), 7);
+        is("its ways", x.ways(0, 0, 7), 56);
+    }
+
     private void nearIsNoMeaning() {
         sentence("Terms 2", "MEANINGS of a ROW: of its own SIGNS, whatever they may be taken for");
         SilentTable x = table("0 rule 0 0 0 plus;sign 0 0 5;sign 1 0 6;near 0 1;near 2 0;near 1 2;", "1 0", "1 1", "1 2 0", "2 look 1 0;says 0 0;");
@@ -305,6 +316,16 @@ public final class EdgeOfSignsTest extends Edges {
         is("most of four", y.all(0, 4, 2), 327680000);
         is("a tree", y.tree(0, 0, MILLION_MILLIONS - 1, 0), 7);
         is("meanings", y.means(0, 0, NONE), 1);
+        is("the last that can be asked for", y.tree(0, 0, Long.MAX_VALUE, 0), 7);
+        for (String act : new String[] {"plus", "less"}) {
+            SilentTable z = table("0 " + ("rule 0 0 0 " + act + ";").repeat(10) + "sign 0 0 0;".repeat(14) + "sign 1 0 0;sign 1 0 0;",
+                "1 " + TWELVE, "1 1 0 0 0 0 0 0 0 0 0 0 0", "1 0 0 0 0 0 0 0 0 0 0 0 1");
+            for (int row = 0; row < 3; row++) {
+                is(act + " ways", z.ways(0, row, 0), MILLION_MILLIONS);
+                is(act + " ways of another", z.ways(0, row, 1), 0);
+                is(act + " trees", z.trees(0, row, 0, 0, 11), MILLION_MILLIONS);
+            }
+        }
         // The last eleven signs have more trees than any n, so the first one has its first reading.
         for (long n : new long[] {0, 1, MILLION_MILLIONS - 1}) {
             is("the first reading of tree " + n, y.tree(0, 0, n, 10), 0);
@@ -576,6 +597,8 @@ public final class EdgeOfSignsTest extends Edges {
         is("all", x.all(0, 1, 0) * 1000 + x.all(0, 2, 1) * 10 + x.all(0, 3, 2), 2042);
         is("apart", x.apart(0, 1, 0) * 10 + x.apart(0, 1, 1), 13);
         instead(x, LIST, 0, "sign 0 0 5;sign 0 0 5;sign 7 1 0;sign 8 0 5;sign 9 0 0;sign 9 0 0;");
+        is("no value", x.brief(0, -1, 0, 0), NONE);
+        is("no value", x.brief(0, -1, NONE, 0), NONE);
         brief(x, 5, 0, 8);
         brief(x, 0, 0);
         brief(x, 0, NONE);
@@ -599,6 +622,12 @@ public final class EdgeOfSignsTest extends Edges {
             }
             brief(x, 6, h, 9);
         }
+        // In any order, also by as many hands as the value is.
+        brief(x, 5, 5, 0);
+        brief(x, 5, 9);
+        brief(x, 5, 5, 0);
+        brief(x, 5, 9);
+        brief(x, 5, 8, 0);
         // A worn row with another tree of the same value keeps it whole; a longer row may be whole where a short one is not.
         SilentTable y = table("0 rule 0 1 1 head;sign 0 0 5;sign 1 0 6;sign 2 1 5;sign 3 1 5;sign 3 1 5;near 0 1;near 2 3;");
         brief(y, 5, NONE, 0);
@@ -736,6 +765,8 @@ public final class EdgeOfSignsTest extends Edges {
         }
         is("all of one sign", x.doubt(0, 1, 0), 16);
         is("a row without trees", x.doubt(0, 2, 0), 0);
+        instead(x, LIST, 1, "rule 0 0 0 head;sign 0 0 1;sign 1 0 2;sign 1 0 3;sign 2 0 4;");
+        is("its own readings alone", x.doubt(1, 2, 0) * 10 + x.doubt(1, 2, 1), 12);
         sentence("Terms 3", "in any TREE of KIND 0 over the whole");
         instead(x, LIST, 1, "rule 0 1 2 head;sign 0 1 0;sign 0 1 0;sign 0 2 0;sign 0 0 0;sign 0 3 0;");
         instead(x, ROW, 2, "0 0");
