@@ -33,8 +33,9 @@ public final class SilentTable {
     /** How many parts a ROW of twelve SIGNS has. */
     private static final int PARTS = 78;
     private static final long TOLD_MOST = 1000000000000L;
-    /** A count this high stands for itself and for all above it: the n-th TREE may be asked for by any long. */
-    private static final long ENDLESS = Long.MAX_VALUE;
+    /** The n-th TREE may be asked for by any long, so counts go as far as these; ENDLESS stands for all above. */
+    private static final long COUNT_MOST = Long.MAX_VALUE;
+    private static final long ENDLESS = -1L;
 
     private static final int HEAD = 0;
     private static final int TAIL = 1;
@@ -785,7 +786,7 @@ public final class SilentTable {
     }
 
     private static long toldCount(long count) {
-        return Math.min(count, TOLD_MOST);
+        return count == ENDLESS ? TOLD_MOST : Math.min(count, TOLD_MOST);
     }
 
     /** How many bits there are (k NONE), or which is the k-th from the lowest. */
@@ -829,14 +830,20 @@ public final class SilentTable {
     }
 
     private static long plus(long a, long b) {
-        return a > ENDLESS - b ? ENDLESS : a + b;
+        if (a == ENDLESS || b == ENDLESS || a > COUNT_MOST - b) {
+            return ENDLESS;
+        }
+        return a + b;
     }
 
     private static long times(long a, long b) {
-        if (a <= 0 || b <= 0) {
+        if (a == 0 || b == 0) {
             return 0;
         }
-        return a > ENDLESS / b ? ENDLESS : a * b;
+        if (a == ENDLESS || b == ENDLESS || a > COUNT_MOST / b) {
+            return ENDLESS;
+        }
+        return a * b;
     }
 
     /** The VALUES (bits) that an ACT makes of any of the first and any of the second ones; both have some. */
@@ -1598,7 +1605,7 @@ public final class SilentTable {
                 for (int r = 0; r < list.ruleCount; r++) {
                     long seconds = seconds(r, cut, to);
                     long here = list.rules[r * EACH] == kind ? times(firsts(r, from, cut), seconds) : 0;
-                    if (seconds > 0 && (left < here || here == ENDLESS)) {
+                    if (seconds != 0 && (left < here || here == ENDLESS)) {
                         boolean endless = seconds == ENDLESS;
                         int u = pick(list.rules[r * EACH + 1], from, cut, endless ? 0 : left / seconds, depth + 1);
                         int v = pick(list.rules[r * EACH + 2], cut + 1, to, endless ? left : left % seconds, depth + 1);
@@ -1731,12 +1738,13 @@ public final class SilentTable {
                     continue;
                 }
                 // One division here spares one for each v.
-                long most = ENDLESS / firsts;
+                long most = firsts == ENDLESS ? 0 : COUNT_MOST / firsts;
                 for (int v = 0; v < VALUES; v++) {
                     long seconds = cells[right + v];
                     if (seconds != 0) {
                         int cell = here + valueOf(act, u, v);
-                        cells[cell] = plus(cells[cell], seconds > most ? ENDLESS : firsts * seconds);
+                        boolean endless = seconds == ENDLESS || seconds > most;
+                        cells[cell] = plus(cells[cell], endless ? ENDLESS : firsts * seconds);
                     }
                 }
             }

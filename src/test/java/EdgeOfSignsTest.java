@@ -23,6 +23,8 @@ public final class EdgeOfSignsTest extends Edges {
         t.nearIsNoMeaning();
         t.orderOfTrees();
         t.manyTrees();
+        t.productsOfPowers();
+        t.lastOfLongs();
         t.trees();
         t.can();
         t.means();
@@ -332,6 +334,54 @@ public final class EdgeOfSignsTest extends Edges {
             is("the first cut of tree " + n, y.tree(0, 0, n, 2), 1);
             is("the last reading of tree " + n, y.tree(0, 0, n, 21), n % 16);
         }
+    }
+
+    /** 4 times 2^62 trees, on either side: in 64 bits that would be none at all. */
+    private void productsOfPowers() {
+        sentence("Terms 2", "All numbers of TREES are told as 1000000000000, if they are more: 2^64");
+        String signs = "sign 0 4 5;".repeat(4) + "sign 1 1 7;".repeat(4) + "sign 1 2 0;".repeat(8);
+        String[] acts = {"head", "tail", "plus", "less", "not"};
+        int[] fewFirst = {5, 7, 12, 48, 42};
+        int[] fewLast = {7, 5, 12, 2, 44};
+        for (int i = 0; i < acts.length; i++) {
+            String left = "rule 1 1 2 head;".repeat(8);
+            SilentTable x = table("0 rule 0 4 1 " + acts[i] + ";" + left + signs, "0 rule 0 1 4 " + acts[i] + ";" + left + signs,
+                "1 0 1 1 1 1 1 1 1 1 1 1 1", "1 1 1 1 1 1 1 1 1 1 1 1 0");
+            for (int side = 0; side < 2; side++) {
+                String call = acts[i] + (side == 0 ? ", few first" : ", few last");
+                int value = side == 0 ? fewFirst[i] : fewLast[i];
+                is(call + ": ways", x.ways(side, side, value), MILLION_MILLIONS);
+                is(call + ": ways of another", x.ways(side, side, value + 1), 0);
+                is(call + ": trees", x.trees(side, side, 0, 0, 11), MILLION_MILLIONS);
+                is(call + ": can", x.can(side, side, 0, 11), 1);
+                is(call + ": doubt", x.doubt(side, side, side * 11), 4);
+                is(call + ": the last tree that can be asked for", x.tree(side, side, Long.MAX_VALUE, 0), value);
+            }
+        }
+    }
+
+    private void lastOfLongs() {
+        String chain = "rule 0 4 1 head;" + "rule 1 1 2 head;".repeat(8) + "sign 1 1 7;".repeat(4) + "sign 1 2 0;".repeat(8);
+        String row = "1 0 1 1 1 1 1 1 1 1 1 1 1";
+        sentence("Promise 13", "the n-th TREE: of 2^62 the last one is there, and none behind it");
+        SilentTable x = table("0 " + chain + "sign 0 4 5;", row);
+        is("the last one", x.tree(0, 0, (1L << 62) - 1, 10), 12);
+        is("its second reading", x.tree(0, 0, (1L << 62) - 1, 11), 3);
+        is("its last reading", x.tree(0, 0, (1L << 62) - 1, 21), 11);
+        is("behind it", x.tree(0, 0, 1L << 62, 0), MISSING);
+        is("far behind it", x.tree(0, 0, Long.MAX_VALUE, 0), MISSING);
+        sentence("Promise 13", "the n-th TREE: of 2^63 the last one is the last that can be asked for");
+        SilentTable y = table("0 " + chain + "sign 0 4 5;sign 0 4 6;", row);
+        is("its value", y.tree(0, 0, Long.MAX_VALUE, 0), 6);
+        is("its first reading", y.tree(0, 0, Long.MAX_VALUE, 10), 13);
+        is("its second reading", y.tree(0, 0, Long.MAX_VALUE, 11), 3);
+        for (int place = 2; place < 12; place++) {
+            is("its reading of sign " + place, y.tree(0, 0, Long.MAX_VALUE, 10 + place), 11);
+        }
+        is("the last of the first half", y.tree(0, 0, (1L << 62) - 1, 10), 12);
+        is("the first of the second half", y.tree(0, 0, 1L << 62, 10), 13);
+        is("the last but one", y.tree(0, 0, Long.MAX_VALUE - 1, 21), 10);
+        is("ways of either", x.ways(0, 0, 5) + y.ways(0, 0, 6), 2 * MILLION_MILLIONS);
     }
 
     private void trees() {

@@ -361,6 +361,10 @@ public final class ModelTest {
         if (below(3) == 0) {
             long whole = y.trees(l, r, 0, 0, y.row(r, -1) - 1);
             n = below(3) == 0 ? whole - below(3) : Math.floorMod(random.nextLong(), Math.max(1, whole));
+            if (full && below(2) == 0) {
+                // There may be far more trees than the number that is told.
+                n = random.nextLong() >>> 1 + below(30);
+            }
         }
         for (int what : new int[] {0, 1, 2, 3, 9, 10, 11, 12, 13, 14, near(30)}) {
             is("tree(" + l + "," + r + "," + n + "," + what + ")", x.tree(l, r, n, what), y.tree(l, r, n, what));
