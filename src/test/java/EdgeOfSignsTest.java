@@ -25,6 +25,7 @@ public final class EdgeOfSignsTest extends Edges {
         t.manyTrees();
         t.productsOfPowers();
         t.lastOfLongs();
+        t.endlessAndFew();
         t.trees();
         t.can();
         t.means();
@@ -382,6 +383,42 @@ public final class EdgeOfSignsTest extends Edges {
         is("the first of the second half", y.tree(0, 0, 1L << 62, 10), 13);
         is("the last but one", y.tree(0, 0, Long.MAX_VALUE - 1, 21), 10);
         is("ways of either", x.ways(0, 0, 5) + y.ways(0, 0, 6), 2 * MILLION_MILLIONS);
+    }
+
+    /** More trees than a long can hold, beside two, and times two. */
+    private void endlessAndFew() {
+        String row = "1 0 1 1 1 1 1 1 1 1 1 1 1";
+        String chain = "rule 1 1 2 head;".repeat(7) + "sign 1 2 0;".repeat(10);
+        long many = 2824752490000000000L;
+        sentence("Promise 13", "the n-th TREE: of 3 * 70^10 the last one is there, and none behind it");
+        SilentTable x = table("0 rule 0 4 1 head;" + chain + "sign 1 1 7;".repeat(3) + "sign 0 4 5;", row);
+        is("the last one", x.tree(0, 0, 3 * many - 1, 0), 5);
+        is("its last reading", x.tree(0, 0, 3 * many - 1, 21), 9);
+        is("behind it", x.tree(0, 0, 3 * many, 0), MISSING);
+        sentence("Terms 2", "All numbers of TREES are told as 1000000000000, if they are more: 4 * 70^10 and two");
+        String both = chain + "sign 1 1 7;".repeat(2) + "sign 0 4 5;".repeat(2) + "rule 5 5 3 head;sign 1 5 7;sign 1 3 0;";
+        String[] orders = {"rule 0 4 1 head;rule 0 4 5 head;", "rule 0 4 5 head;rule 0 4 1 head;"};
+        for (int i = 0; i < 2; i++) {
+            SilentTable y = table("0 " + orders[i] + both, row);
+            is("trees", y.trees(0, 0, 0, 0, 11), MILLION_MILLIONS);
+            is("trees of the few", y.trees(0, 0, 5, 1, 11), 1);
+            is("ways", y.ways(0, 0, 5), MILLION_MILLIONS);
+            is("the third tree's rule", y.tree(0, 0, 2, 1), i);
+            is("the last that can be asked for", y.tree(0, 0, Long.MAX_VALUE, 1), i);
+        }
+        sentence("Promise 13", "by the first part's TREES, then by the second part's: more first ones than can be asked for");
+        String first = "rule 1 1 2 head;".repeat(8) + "sign 1 2 0;".repeat(10) + "sign 1 1 7;".repeat(2) + "sign 0 4 5;".repeat(2);
+        SilentTable z = table("0 rule 0 1 4 tail;" + first, "1 1 1 1 1 1 1 1 1 1 1 1 0", "1 1 1 1 1 1 1 1 1 1 1 1 1");
+        is("trees", z.trees(0, 0, 0, 0, 11), MILLION_MILLIONS);
+        is("of the first part", z.trees(0, 0, 1, 0, 10), MILLION_MILLIONS);
+        is("ways", z.ways(0, 0, 5), MILLION_MILLIONS);
+        for (long n : new long[] {0, 1, 2, 39, 40, MILLION_MILLIONS + 21, Long.MAX_VALUE - 1, Long.MAX_VALUE}) {
+            is("value of tree " + n, z.tree(0, 0, n, 0), 5);
+            is("cut of tree " + n, z.tree(0, 0, n, 2), 11);
+            is("last reading of tree " + n, z.tree(0, 0, n, 21), 12 + n % 2);
+            is("last reading but one of tree " + n, z.tree(0, 0, n, 20), n / 2 % 10);
+        }
+        is("no tree without the last sign", z.tree(0, 1, 0, 0), MISSING);
     }
 
     private void trees() {
